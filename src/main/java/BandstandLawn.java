@@ -727,7 +727,7 @@ public final class BandstandLawn {
 
         int loudAt(int when) {
             int bits = 0;
-            for (int rest = tuned; rest != 0; rest &= rest - 1) {
+            for (int i = 0, rest = tuned; i < MOST_CELLS && rest != 0; i++, rest &= rest - 1) {
                 if (soundsAt(lowest(rest), when)) {
                     bits |= rest & -rest;
                 }
@@ -736,7 +736,7 @@ public final class BandstandLawn {
         }
 
         boolean allTunesDivide(int n) {
-            for (int rest = tuned; rest != 0; rest &= rest - 1) {
+            for (int i = 0, rest = tuned; i < MOST_CELLS && rest != 0; i++, rest &= rest - 1) {
                 int beat = beatOf(lowest(rest));
                 if (beat > 0 && n % beat != 0) {
                     return false;
@@ -962,26 +962,32 @@ public final class BandstandLawn {
             }
         }
 
-        /** BEATS of which the TUNES alone are looked at: no GOER has a hand in where they spread. */
+        /** BEATS of which the TUNES alone are looked at: no GOER has a hand in where they spread, none goes. */
         void soak(Scene scene, int n, int bySeed) {
-            for (int i = 0; i < n; i++) {
+            for (int i = 0; i < n && canSpread(scene); i++) {
                 scene.time++;
                 spread(scene, bySeed);
             }
         }
 
+        private boolean canSpread(Scene scene) {
+            return wet > 0 && field.quietOnTheRight(scene.tuned) != 0
+                    && Integer.bitCount(scene.tuned) < MOST_TUNES;
+        }
+
         /** The scene's own set of tuned cells stays as it was till the end, as the laws are to see it. */
         private void spread(Scene scene, int bySeed) {
-            int reached = 0;
             int room = MOST_TUNES - Integer.bitCount(scene.tuned);
-            for (int rest = field.quietOnTheRight(scene.tuned); rest != 0 && room > 0; rest &= rest - 1) {
+            int reached = 0;
+            int rest = field.quietOnTheRight(scene.tuned);
+            for (int i = 0; i < MOST_CELLS && rest != 0 && room > 0; i++, rest &= rest - 1) {
                 int cell = lowest(rest);
                 if (isWet(scene.time, cell, bySeed) && ask(scene, SPREADS, cell, 0, 0) > 0) {
                     reached |= 1 << cell + 1;
                     room--;
                 }
             }
-            for (; reached != 0; reached &= reached - 1) {
+            for (int i = 0; i < MOST_CELLS && reached != 0; i++, reached &= reached - 1) {
                 scene.soundFromTheLeft(lowest(reached));
             }
         }
@@ -1491,8 +1497,13 @@ public final class BandstandLawn {
         void look(Scene scene) {
             open = field.all & ~scene.ropes;
             begin = scene.time;
-            for (int when = 0; when < ROUND; when++) {
-                loudCells[when] = scene.loudAt(when);
+            Arrays.fill(loudCells, 0);
+            for (int i = 0, rest = scene.tuned; i < MOST_CELLS && rest != 0; i++, rest &= rest - 1) {
+                int cell = lowest(rest);
+                int beat = scene.beatOf(cell);
+                for (int when = scene.offsetOf(cell); when < ROUND && beat > 0; when += beat) {
+                    loudCells[when] |= 1 << cell;
+                }
             }
         }
 
@@ -1549,21 +1560,30 @@ public final class BandstandLawn {
             return wait;
         }
 
-        /** The cells to be mown, NONE if all are not enough. Sets come by their bits, the least first. */
+        /** The cells to be mown, NONE if all are not enough. */
         int fewestMown(int from, int to, int most, int tuned) {
             if (fewest(from, to, begin, tuned, most) == NONE) {
                 return NONE;
             }
-            int best = tuned;
+            for (int few = 0; few < Integer.bitCount(tuned); few++) {
+                int mown = mownBy(few, from, to, most, tuned);
+                if (mown != NONE) {
+                    return mown;
+                }
+            }
+            return tuned;
+        }
+
+        /** Of the sets of just so many cells the first that is enough: they come by their bits, the least first. */
+        private int mownBy(int few, int from, int to, int most, int tuned) {
             int mown = 0;
             for (int i = 0; i < 1 << MOST_TUNES && mown != tuned; i++) {
-                boolean fewer = Integer.bitCount(mown) < Integer.bitCount(best);
-                if (fewer && fewest(from, to, begin, mown, most) != NONE) {
-                    best = mown;
+                if (Integer.bitCount(mown) == few && fewest(from, to, begin, mown, most) != NONE) {
+                    return mown;
                 }
                 mown = mown - tuned & tuned;
             }
-            return best;
+            return NONE;
         }
 
         boolean findMeeting(int from, int other) {
@@ -1689,7 +1709,7 @@ public final class BandstandLawn {
         }
 
         void match(Scene scene, int goers) {
-            least = Integer.MAX_VALUE;
+            least = NONE;
             pairOff(scene, (1 << goers) - 1, 0, 0);
         }
 
@@ -1715,7 +1735,7 @@ public final class BandstandLawn {
         }
 
         private void keepIfLess(int sum) {
-            if (sum < least) {
+            if (least == NONE || sum < least) {
                 least = sum;
                 System.arraycopy(tried, 0, best, 0, MOST_GOERS);
             }
