@@ -285,6 +285,10 @@ public final class BandstandLawn {
         return n >= 0 && n <= MOST_BEATS;
     }
 
+    private static boolean isNoughtOrOne(int what) {
+        return what == 0 || what == 1;
+    }
+
     // ---- what sounds when
 
     public int next(int cell) {
@@ -316,7 +320,7 @@ public final class BandstandLawn {
     }
 
     public int silence(int what) {
-        if (what != 0 && what != 1) {
+        if (!isNoughtOrOne(what)) {
             return NONE;
         }
         int longest = 0;
@@ -333,7 +337,7 @@ public final class BandstandLawn {
     }
 
     public int chorus(int what) {
-        if (what != 0 && what != 1) {
+        if (!isNoughtOrOne(what)) {
             return NONE;
         }
         int most = NONE;
@@ -375,7 +379,7 @@ public final class BandstandLawn {
     }
 
     public int leave(int from, int to, int what) {
-        if (!isFree(from) || !isFree(to) || what != 0 && what != 1) {
+        if (!isFree(from) || !isFree(to) || !isNoughtOrOne(what)) {
             return NONE;
         }
         ways.look(now);
@@ -387,7 +391,7 @@ public final class BandstandLawn {
     }
 
     public int mows(int from, int to, int n, int what) {
-        if (!isFree(from) || !isFree(to) || !isSpan(n) || what != 0 && what != 1) {
+        if (!isFree(from) || !isFree(to) || !isSpan(n) || !isNoughtOrOne(what)) {
             return NONE;
         }
         ways.look(now);
@@ -399,7 +403,7 @@ public final class BandstandLawn {
     }
 
     public int meet(int goer, int other, int what) {
-        if (!band.hasGoer(goer) || !band.hasGoer(other) || what != 0 && what != 1) {
+        if (!band.hasGoer(goer) || !band.hasGoer(other) || !isNoughtOrOne(what)) {
             return NONE;
         }
         ways.look(now);
@@ -428,7 +432,7 @@ public final class BandstandLawn {
     }
 
     public int centre(int what) {
-        if (what != 0 && what != 1) {
+        if (!isNoughtOrOne(what)) {
             return NONE;
         }
         int open = field.all & ~now.ropes;
@@ -495,7 +499,7 @@ public final class BandstandLawn {
     }
 
     public int then(int goer, int n, int what) {
-        if (!band.hasGoer(goer) || !isSpan(n) || what != 0 && what != 1) {
+        if (!band.hasGoer(goer) || !isSpan(n) || !isNoughtOrOne(what)) {
             return NONE;
         }
         trial.become(now);
@@ -548,7 +552,7 @@ public final class BandstandLawn {
     }
 
     public int fits(int k, int what) {
-        if (!ear.knows(k) || what != 0 && what != 1) {
+        if (!ear.knows(k) || !isNoughtOrOne(what)) {
             return NONE;
         }
         int fitting = ear.fitting(k);
@@ -1616,8 +1620,6 @@ public final class BandstandLawn {
         private final int[] foundFrom = new int[2 * MOST_CELLS];
         private final int[] queue = new int[2 * MOST_CELLS];
         private int queued = 0;
-        /** The cells from which a way steps into the goal. */
-        private int lastCells = 0;
 
         Cut(Field itsField) {
             field = itsField;
@@ -1625,7 +1627,6 @@ public final class BandstandLawn {
 
         int fewestRopes(int open, int from, int to) {
             Arrays.fill(ahead, NONE);
-            lastCells = 0;
             int found = 0;
             for (int i = 0; i < MOST_WAYS && search(open, from, to); i++) {
                 layWay(from, to);
@@ -1646,7 +1647,7 @@ public final class BandstandLawn {
                 if ((queue[i] & 1) == 0) {
                     leadOnFromEntry(cell);
                 } else {
-                    leadOnFromExit(cell, open & ~(1 << from), to);
+                    leadOnFromExit(cell, open & ~(1 << from));
                 }
             }
             return false;
@@ -1666,11 +1667,11 @@ public final class BandstandLawn {
             find(before == NONE ? 2 * cell + 1 : 2 * before + 1, 2 * cell);
         }
 
-        private void leadOnFromExit(int cell, int open, int to) {
+        /** The exit of a cell on a way is found from the entry behind it alone: never from the goal's. */
+        private void leadOnFromExit(int cell, int open) {
             int beside = field.grown(1 << cell) & open & ~(1 << cell);
             for (int other = 0; other < MOST_CELLS; other++) {
-                boolean taken = other == to ? (lastCells >>> cell & 1) != 0 : ahead[other] == cell;
-                if ((beside >>> other & 1) != 0 && !taken) {
+                if ((beside >>> other & 1) != 0 && ahead[other] != cell) {
                     find(2 * other, 2 * cell + 1);
                 }
             }
@@ -1687,9 +1688,7 @@ public final class BandstandLawn {
                     return;
                 }
                 int cell = node >> 1;
-                if (cell == to) {
-                    lastCells |= 1 << (before >> 1);
-                } else if ((node & 1) == 0) {
+                if ((node & 1) == 0 && cell != to) {
                     ahead[cell] = before >> 1 == cell ? NONE : before >> 1;
                 }
                 node = before;

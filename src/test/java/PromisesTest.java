@@ -16,6 +16,7 @@ public final class PromisesTest {
         test.readRoom();
         test.readLater();
         test.readChangesNothing();
+        test.readAgain();
         test.laws();
         test.cell();
         test.goer();
@@ -310,6 +311,41 @@ public final class PromisesTest {
         due("moved behind a read", lawn.count(13), 0);
     }
 
+    /** A text is in place of the one ahead: nothing of that is left. */
+    private void readAgain() {
+        BandstandLawn lawn = new BandstandLawn();
+        String full = "lawn 5 4;" + times(8, "tune 4 3 2 1;") + times(8, "rope 3 3;") + "goer a 0 0;goer b 0 1;"
+                + "goer c 0 2;goer d 1 0;goer e 2 0;steps=1;moves=3;spreads=1;costs=5;wet 100;seed 77;";
+        String longLaw = "costs = 1" + times(195, "+1") + ";";
+        for (int i = 0; i < 4; i++) {
+            due("read " + i, Check.read(lawn, full), 0);
+            due("beats", lawn.beats(1), 1);
+            due("read of a long law", Check.read(lawn, longLaw), 0);
+            due("undo", lawn.undo(), false);
+            due("its COSTS", lawn.cell(0, 5), 99);
+            due("read of a FAULT", Check.read(lawn, full + "!"), 1);
+            due("read of a FAULT", Check.read(lawn, full + "rope 0 0;"), 2);
+            due("read of a FAULT", Check.read(lawn, "lawn 5 5;rope 4 4;wet 101;"), 5);
+        }
+        due("read", Check.read(lawn, "tune 0 0 2 0;goer a 1 1;wet 50;"), 0);
+        due("WIDE", lawn.count(0), 4);
+        due("TUNES", lawn.count(5), 1);
+        due("ropes", lawn.count(6), 0);
+        due("GOERS", lawn.count(2), 1);
+        due("moved", lawn.count(13), 0);
+        due("STEPS", lawn.goer(0, 2), 5);
+        due("MOVES", lawn.goer(0, 3), 6);
+        due("COSTS", lawn.cell(0, 5), 1);
+        due("SPREADS", lawn.tunesIn(100), 1);
+        due("read", Check.read(lawn, "tune 0 0 2 0;spreads=1;wet 29;"), 0);
+        due("SEED 0", lawn.tunesIn(1), 1);
+        due("read", Check.read(lawn, "tune 0 0 2 0;spreads=1;wet 30;"), 0);
+        due("SEED 0", lawn.tunesIn(1), 3);
+        due("read of nothing", lawn.read(), 0);
+        due("COSTS", lawn.cell(0, 5), 1);
+        due("TUNES", lawn.count(5), 0);
+    }
+
     // ---- laws, asked of a cell by COSTS, of a goer by STEPS
 
     private void costs(String law, int want) {
@@ -365,6 +401,14 @@ public final class PromisesTest {
         int[] want = {4, 5, 7, 3, 1};
         for (int goer = 0; goer < 5; goer++) {
             due("WAY of " + goer, lawn.goer(goer, 2), want[goer]);
+        }
+        int[] corner = {0, 4, 20, 24};
+        int[][] there = {{0, 1, 5, 0, 0}, {4, 4, 9, 3, 4}, {20, 21, 20, 20, 15}, {24, 24, 24, 23, 19}};
+        for (int way = 0; way < 5; way++) {
+            BandstandLawn corners = check.lawn("lawn 5 5;goer a 0 0;goer b 4 0;goer c 0 4;goer d 4 4;steps=" + way + ";");
+            for (int goer = 0; goer < 4; goer++) {
+                due("WAY " + way + " from " + corner[goer], corners.goer(goer, 2), there[goer][way]);
+            }
         }
         due("WAY by 7", check.lawn("lawn 3 3;goer a 1 1;steps=7;").goer(0, 2), 7);
         due("WAY below 0", check.lawn("lawn 3 3;goer a 1 1;steps=0-3;").goer(0, 2), 4);
@@ -603,6 +647,7 @@ public final class PromisesTest {
         due("next(1)", lawn.next(1), 4);
         due("next(2)", lawn.next(2), 1);
         due("next(6)", lawn.next(6), NOT);
+        due("next, 6 on", check.lawn("tune 0 0 6 0;").next(0), 6);
         due("next(9)", lawn.next(9), NONE);
         due("together(0, 1)", lawn.together(0, 1), 9);
         due("together(1, 0)", lawn.together(1, 0), 9);
@@ -1076,6 +1121,17 @@ public final class PromisesTest {
         lawn.tell(50, true);
         due("one is left", lawn.fits(3, 1), 32);
         due("listen(3) when one is left", lawn.listen(3), 0);
+        // each tune alone, told by a whole round
+        for (int beat = 2; beat <= 6; beat++) {
+            for (int offset = 0; offset < beat; offset++) {
+                lawn.forget();
+                for (int time = 0; time < 20; time++) {
+                    lawn.tell(time, time % beat == offset);
+                }
+                due("one fits", lawn.fits(20, 0), 1);
+                due("which fits", lawn.fits(20, 1), 10 * beat + offset);
+            }
+        }
     }
 
     // ---- 37, 38
