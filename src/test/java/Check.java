@@ -5,13 +5,21 @@ import java.util.Arrays;
 final class Check {
     private int wrong = 0;
     private int asked = 0;
+    private int sentences = 0;
+    private String sentence = "";
+
+    /** What comes behind this is asked because of these words of the document. */
+    void says(String words) {
+        sentences++;
+        sentence = "\"" + words + "\": ";
+    }
 
     void due(String call, long got, long want) {
         asked++;
         if (got != want) {
             wrong++;
             if (wrong <= 50) {
-                System.out.println(call + " answered " + got + ", due is " + want);
+                System.out.println(sentence + call + " answered " + got + ", due is " + want);
             }
         }
     }
@@ -20,12 +28,30 @@ final class Check {
         due(call, got ? 1 : 0, want ? 1 : 0);
     }
 
+    /** Which FAULT a text has on a new object, and where. */
+    void fault(String text, int number, int place) {
+        BandstandLawn lawn = new BandstandLawn();
+        String shown = text.length() > 60 ? text.substring(0, 60) + ".." : text;
+        due("read of " + shown, read(lawn, text), number);
+        due("place of " + shown, lawn.place(), place);
+    }
+
+    void fine(String text) {
+        fault(text, 0, BandstandLawn.NONE);
+    }
+
+    /** That two looks at a lawn show the same. */
+    void same(String call, String before, String behind) {
+        due(call + ", and nothing happens (" + before + " before, " + behind + " then)", before.equals(behind), true);
+    }
+
     int wrong() {
         return wrong;
     }
 
     void end(String name) {
-        System.out.println(name + ": " + asked + " answers, " + wrong + " not as due");
+        System.out.println(name + ": " + (sentences == 0 ? "" : sentences + " sentences, ") + asked + " answers, " + wrong
+                + " not as due");
         if (wrong != 0) {
             System.exit(1);
         }
@@ -55,5 +81,24 @@ final class Check {
         BandstandLawn lawn = new BandstandLawn();
         due("read of " + text, read(lawn, text), 0);
         return lawn;
+    }
+
+    /** All of a lawn that is answered without asking what would be; some 240 calls at most. */
+    static String seen(BandstandLawn lawn) {
+        StringBuilder seen = new StringBuilder();
+        for (int what = 0; what < 20; what++) {
+            seen.append(lawn.count(what)).append(' ');
+        }
+        for (int cell = 0; cell < lawn.count(0) * lawn.count(1); cell++) {
+            for (int what = 0; what < 6; what++) {
+                seen.append(lawn.cell(cell, what)).append(',');
+            }
+        }
+        for (int goer = 0; goer < lawn.count(2); goer++) {
+            for (int what = 0; what < 4; what++) {
+                seen.append(lawn.goer(goer, what)).append(',');
+            }
+        }
+        return seen.append(lawn.place()).append(' ').append(lawn.fits(lawn.count(10), 1)).toString();
     }
 }
