@@ -15,6 +15,7 @@ public final class AskedBoundsTest {
         test.together();
         test.paths();
         test.way();
+        test.wayByNought();
         test.longWay();
         test.leave();
         test.mows();
@@ -275,6 +276,35 @@ public final class AskedBoundsTest {
         due("way(0, 5, 2)", lawn.way(0, 5, 2), 4);
     }
 
+    /** From 5 to 3 one goes by 0, which SOUNDS at 1, 5 ..: 5 0 1 2 3. */
+    private static final String AROUND_NOUGHT = "lawn 5 2;rope 1 1;rope 2 1;rope 3 1;rope 4 1;tune 0 0 4 1;";
+
+    private void wayByNought() {
+        says("in none whose TUNE SOUNDS at that time");
+        BandstandLawn lawn = lawn(AROUND_NOUGHT);
+        int[] cells = {5, 5, 0, 1, 2, 3};
+        due("way(5, 3)", lawn.way(5, 3, NONE), 5);
+        for (int i = 0; i < cells.length; i++) {
+            due("way(5, 3, " + i + ")", lawn.way(5, 3, i), cells[i]);
+        }
+        due("leave(5, 3, 0)", lawn.leave(5, 3, 0), 1);
+        due("leave(5, 3, 1)", lawn.leave(5, 3, 1), 4);
+        due("mows(5, 3, 4, 1)", lawn.mows(5, 3, 4, 1), 1);
+        due("mows(5, 3, 5, 1)", lawn.mows(5, 3, 5, 1), 0);
+        // by 1 one would come to 0 as it SOUNDS: as short a way leads by 5
+        lawn = lawn("lawn 3 3;rope 1 1;tune 0 0 4 2;");
+        int[] round = {2, 5, 8, 7, 6};
+        due("way(2, 6)", lawn.way(2, 6, NONE), 4);
+        for (int i = 0; i < round.length; i++) {
+            due("way(2, 6, " + i + ")", lawn.way(2, 6, i), round[i]);
+        }
+        // 0 and 1 are never passed one behind the other: whenever one begins, the other way round is the shortest
+        lawn = lawn("lawn 3 3;rope 1 1;tune 0 0 2 0;tune 1 0 2 0;");
+        due("way(3, 2)", lawn.way(3, 2, NONE), 5);
+        due("leave(3, 2, 0)", lawn.leave(3, 2, 0), 0);
+        due("leave(3, 2, 1)", lawn.leave(3, 2, 1), 5);
+    }
+
     /** The longest WAY that a search over lawns came to: 50 BEATS. None is known that comes near to 100. */
     private void longWay() {
         says("WAY from a cell to a cell: the fewest BEATS (0 .. 100) of a PATH");
@@ -423,6 +453,13 @@ public final class AskedBoundsTest {
         lawn.carry(0, 0);
         lawn.rope(22, true);
         due("part(7, 17), parted", lawn.part(7, 17), 0);
+        says("so that one can not go from one to the other by cells not roped off (TUNES not looked at)");
+        int[] wides = {5, 5, 5, 4, 3, 5};
+        int[] highs = {5, 5, 4, 5, 5, 3};
+        int[] roped = {0, 1 << 6 | 1 << 8 | 1 << 16 | 1 << 18, 1 << 7 | 1 << 11, 1 << 5 | 1 << 14, 1 << 4, 1 << 2 | 1 << 12};
+        for (int i = 0; i < wides.length; i++) {
+            parted(wides[i], highs[i], roped[i]);
+        }
         says("PART; -2: side by side, one and the same; NONE: no such cells, roped off");
         lawn = lawn("lawn 3 3;rope 2 2;");
         due("part(4, 4)", lawn.part(4, 4), NOT);
@@ -445,6 +482,56 @@ public final class AskedBoundsTest {
         }
     }
 
+    /** Each pair of cells, held against all sets of ropes, the smallest first. */
+    private void parted(int wide, int high, int roped) {
+        int many = wide * high;
+        StringBuilder text = new StringBuilder("lawn " + wide + " " + high + ";");
+        for (int cell = 0; cell < many; cell++) {
+            text.append((roped >> cell & 1) != 0 ? "rope " + cell % wide + " " + cell / wide + ";" : "");
+        }
+        for (int from = 0; from < many; from++) {
+            BandstandLawn lawn = lawn(text.toString());
+            for (int to = 0; to < many; to++) {
+                int apart = Math.abs(from % wide - to % wide) + Math.abs(from / wide - to / wide);
+                if ((roped >> from & 1) == 0 && (roped >> to & 1) == 0 && apart > 1) {
+                    int open = (1 << many) - 1 & ~roped;
+                    int few = 0;
+                    while (few < 4 && !cutBy(few, 0, open, wide, from, to)) {
+                        few++;
+                    }
+                    due("part(" + from + ", " + to + ") of " + text, lawn.part(from, to), few);
+                }
+            }
+        }
+    }
+
+    private static boolean cutBy(int ropes, int first, int open, int wide, int from, int to) {
+        if (!leads(open, wide, from, to)) {
+            return true;
+        }
+        for (int cell = first; cell < 25 && ropes > 0; cell++) {
+            if (cell != from && cell != to && (open >> cell & 1) != 0
+                    && cutBy(ropes - 1, cell + 1, open & ~(1 << cell), wide, from, to)) {
+                return true;
+            }
+        }
+        return false;
+    }
+
+    private static boolean leads(int open, int wide, int from, int to) {
+        int left = 0;
+        for (int cell = 0; cell < 25; cell += wide) {
+            left |= 1 << cell;
+        }
+        int before = 0;
+        int reached = 1 << from;
+        while (reached != before) {
+            before = reached;
+            reached |= (reached << 1 & ~left | (reached & ~left) >> 1 | reached << wide | reached >> wide) & open;
+        }
+        return (reached >> to & 1) != 0;
+    }
+
     private void meet() {
         says("MEET of two GOERS: the fewest BEATS (0 .. 100) behind which PATHS of both, from where they are, end in one"
                 + " cell; the lowest such cell");
@@ -460,6 +547,21 @@ public final class AskedBoundsTest {
         lawn.carry(0, 0);
         lawn.carry(2, 1);
         due("0 SOUNDS next: in 1", lawn.meet(0, 2, 1), 1);
+        // a lane 0 1 2 3 4, shut at odd times in 1 and 3, each third time in 2
+        lawn = lawn("lawn 5 2;rope 0 1;rope 1 1;rope 2 1;rope 3 1;rope 4 1;tune 1 0 2 1;tune 3 0 2 1;tune 2 0 3 0;"
+                + "goer a 0 0;goer b 4 0;");
+        int[] behind = {5, 4, 3, 2, 3, 2, 5};
+        for (int time = 0; time < behind.length; time++) {
+            due("meet at " + time, lawn.meet(0, 1, 0), behind[time]);
+            due("meet at " + time, lawn.meet(0, 1, 1), 2);
+            lawn.beats(1);
+        }
+        lawn = lawn(AROUND_NOUGHT + "goer a 0 1;goer b 3 0;");
+        for (int goer = 0; goer < 2; goer++) {
+            due("a waits for 0", lawn.meet(goer, 1 - goer, 0), 3);
+            due("a waits for 0", lawn.meet(goer, 1 - goer, 1), 0);
+        }
+        lawn = lawn("lawn 5 2;goer a 0 0;goer b 0 0;goer c 1 0;goer d 2 0;goer e 4 1;tune 0 0 2 0;");
         says("(one and the same GOER: 0, where they are); -2: not; NONE: no such ones");
         due("meet(4, 4, 0)", lawn.meet(4, 4, 0), 0);
         due("meet(4, 4, 1)", lawn.meet(4, 4, 1), 9);
@@ -695,6 +797,8 @@ public final class AskedBoundsTest {
             lawn.beats(7);
             due("period of " + text + " at 7", lawn.period(), want);
         }
+        due("in the first cell", lawn("lawn 5 5;tune 0 0 5 0;").period(), 5);
+        due("in the last cell", lawn("lawn 5 5;tune 4 4 6 5;tune 0 0 4 0;").period(), 12);
     }
 
     // ---- how far
@@ -954,6 +1058,16 @@ public final class AskedBoundsTest {
             due("silent up to " + k + ", how many", lawn.fits(k, 0), left[k]);
             due("silent up to " + k + ", the first", lawn.fits(k, 1), firsts[k]);
             lawn.tell(k, false);
+        }
+        for (int beat = 2; beat <= 6; beat++) {
+            for (int offset = 0; offset < beat; offset++) {
+                BandstandLawn alone = new BandstandLawn();
+                for (int time = 40; time < 60; time++) {
+                    alone.tell(time, time % beat == offset);
+                }
+                due("one is left", alone.fits(20, 0), 1);
+                due("which", alone.fits(20, 1), 10 * beat + offset);
+            }
         }
     }
 

@@ -60,12 +60,8 @@ public final class PromisesTest {
         return piece.repeat(n);
     }
 
-    /** Reads a text on a new object: which FAULT, and where. */
     private void fault(String text, int number, int place) {
-        BandstandLawn lawn = new BandstandLawn();
-        String shown = text.length() > 60 ? text.substring(0, 60) + ".." : text;
-        due("read of " + shown, Check.read(lawn, text), number);
-        due("place of " + shown, lawn.place(), place);
+        check.fault(text, number, place);
     }
 
     // ---- 1
@@ -1204,8 +1200,8 @@ public final class PromisesTest {
     // ---- no call may throw, or change anything, by wrong inputs
 
     private void wrongInputs() {
-        BandstandLawn lawn = check.lawn("lawn 5 5;tune 0 0 2 1;tune 4 4 3 0;rope 1 1;goer a 0 0;goer b 4 4;steps=time;");
         for (int a : ODD) {
+            BandstandLawn lawn = check.lawn("lawn 5 5;tune 0 0 2 1;tune 4 4 3 0;rope 1 1;goer a 0 0;goer b 4 4;steps=time;");
             for (int b : ODD) {
                 due("cell", lawn.cell(a, b), NONE);
                 due("goer", lawn.goer(a, b), NONE);
@@ -1245,7 +1241,7 @@ public final class PromisesTest {
             if (a != NONE) {
                 due("pairs", lawn.pairs(a), NONE);
             }
+            due("nothing was done", lawn.count(9), 0);
         }
-        due("nothing was done", lawn.count(9), 0);
     }
 }

@@ -749,10 +749,42 @@ public final class TextBoundsTest {
         for (int slot = 0; slot < 3; slot++) {
             due("restore(" + slot + ")", lawn.restore(slot), false);
         }
+        // as much as can be told, again and again: what a text counts begins anew with each
+        String full = "lawn 5 4;" + times(8, "tune 4 3 2 1;") + times(8, "rope 3 3;") + "goer a 0 0;goer b 0 1;goer c 0 2;"
+                + "goer d 1 0;goer e 2 0;wet 30;seed 9999;";
+        lawn = new BandstandLawn();
+        for (int i = 0; i < 3; i++) {
+            due("read of a full one", Check.read(lawn, full), 0);
+            due("read of one more", Check.read(lawn, full + "tune 0 0 2 0;"), ROOM);
+            due("read of one more", Check.read(lawn, full + "rope 0 0;"), ROOM);
+            due("read of one more", Check.read(lawn, full + "goer f 0 0;"), ROOM);
+        }
+        for (String law : LAWS) {
+            for (String other : LAWS) {
+                lawnOfOneLaw(law, other);
+            }
+        }
+        lawn = check.lawn("seed 9999;wet 30;");
+        due("read, no SEED told", Check.read(lawn, "lawn 2 2;tune 0 0 2 0;spreads=1;wet 30;"), 0);
+        due("SEED 0 again", lawn.tunesIn(1), 3);
         due("an empty text, too", lawn.beats(1), 1);
         due("read", lawn.read(), 0);
         due("time", lawn.count(3), 0);
         due("GOERS", lawn.count(2), 0);
         due("next(0)", lawn.next(0), NOT);
+    }
+
+    /** Of the LAWS that a text does not tell nothing is left of the texts ahead, long or short. */
+    private void lawnOfOneLaw(String law, String other) {
+        BandstandLawn lawn = check.lawn("wet 1;" + law + "=2;" + law + "=2;" + other + "=2;" + law + "=2;");
+        String told = "lawn 3 3;goer a 1 1;tune 1 1 2 0;wet 100;" + law;
+        String[] texts = {"=if 9<1 then 5 else 4;", "=4" + times(180, "+0") + ";", "=4" + times(180, "+0") + ";", "=4;"};
+        for (String text : texts) {
+            due("read of " + law + " alone", Check.read(lawn, told + text), 0);
+            due(law + ": STEPS", lawn.goer(0, 2), law.equals("steps") ? 1 : 4);
+            due(law + ": MOVES", lawn.goer(0, 3), law.equals("moves") ? 1 : 5);
+            due(law + ": SPREADS", lawn.tunesIn(9), law.equals("spreads") ? 48 : 16);
+            due(law + ": COSTS", lawn.cell(4, 5), law.equals("costs") ? 4 : 1);
+        }
     }
 }
