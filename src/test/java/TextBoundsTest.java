@@ -81,6 +81,10 @@ public final class TextBoundsTest {
     private void newObject() {
         says("A LAWN of 4 by 4, no TUNES, no GOERS.");
         BandstandLawn lawn = new BandstandLawn();
+        int[] counts = {4, 4, 0, 0, 0, 0, 0, 0, 0, 0, 0, 0, 0, 0, 0, 0, 65535, 0, 0, 0, NONE};
+        for (int what = 0; what < counts.length; what++) {
+            due("count(" + what + ")", lawn.count(what), counts[what]);
+        }
         due("cell(15, 3)", lawn.cell(15, 3), 0);
         due("cell(16, 3)", lawn.cell(16, 3), NONE);
         due("far(3, 4), of two rows", lawn.far(3, 4), 4);
