@@ -836,9 +836,10 @@ public final class BandstandLawn {
 
         int value(int law, int[] asked) {
             int depth = 0;
-            int start = law >= 0 && law < LAWS ? starts[law] : size;
-            for (int i = Math.max(0, start); i < size; i++) {
-                int order = orders[i];
+            int next = law >= 0 && law < LAWS ? starts[law] : size;
+            for (int i = 0; i < MOST_ORDERS && next >= 0 && next < size; i++) {
+                int order = orders[next];
+                next++;
                 if (order >= LAST_VAR) {
                     if (depth >= MOST_STACKED || -1 - order >= asked.length) {
                         return 0;
@@ -856,7 +857,7 @@ public final class BandstandLawn {
                     int other = stack[depth];
                     if (order == LESS) {
                         depth--;
-                        i = one < other ? i + 1 : behind(i);
+                        next = one < other ? next + 1 : elseOf(next);
                     } else if (order == DIVIDE && other == 0) {
                         return 0;
                     } else {
@@ -867,9 +868,9 @@ public final class BandstandLawn {
             return 0;
         }
 
-        /** The order ahead of the one at which a < that does not hold goes on: never an earlier one. */
-        private int behind(int less) {
-            return less + 1 < size ? Math.max(less + 1, orders[less + 1] - 1) : size;
+        /** Where it goes on if a < does not hold. */
+        private int elseOf(int room) {
+            return room >= 0 && room < size ? orders[room] : size;
         }
 
         private static int reckon(int order, int one, int other) {

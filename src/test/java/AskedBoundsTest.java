@@ -305,32 +305,44 @@ public final class AskedBoundsTest {
         due("leave(3, 2, 1)", lawn.leave(3, 2, 1), 5);
     }
 
-    /** The longest WAY that a search over lawns came to: 50 BEATS. None is known that comes near to 100. */
-    private void longWay() {
-        says("WAY from a cell to a cell: the fewest BEATS (0 .. 100) of a PATH");
-        int[] tuned = {5, 10, 12, 15, 17, 20, 21, 22};
-        int[] beats = {6, 3, 4, 3, 3, 5, 2, 3};
-        int[] offsets = {0, 0, 1, 0, 0, 1, 1, 0};
-        StringBuilder text = new StringBuilder("lawn 5 5;rope 2 1;rope 3 1;rope 4 1;rope 1 2;rope 1 3;rope 3 3;rope 3 4;");
-        for (int i = 0; i < 8; i++) {
+    /** The cells of ropes, then of TUNES, and their BEATS and OFFSETS. */
+    private static String lawnOf(int[] ropes, int[] tuned, int[] beats, int[] offsets) {
+        StringBuilder text = new StringBuilder("lawn 5 5;");
+        for (int cell : ropes) {
+            text.append("rope ").append(cell % 5).append(' ').append(cell / 5).append(';');
+        }
+        for (int i = 0; i < tuned.length; i++) {
             text.append(tune(tuned[i], 5, beats[i], offsets[i]));
         }
-        BandstandLawn lawn = lawn(text.toString());
-        due("way(24, 4)", lawn.way(24, 4, NONE), 50);
-        int before = 24;
-        for (int n = 0; n <= 50; n++) {
-            int cell = lawn.way(24, 4, n);
+        return text.toString();
+    }
+
+    /** The longest WAYS that searches over lawns came to: 51 BEATS. None is known that comes near to 100. */
+    private void longWay() {
+        says("WAY from a cell to a cell: the fewest BEATS (0 .. 100) of a PATH");
+        longWay(lawnOf(new int[] {7, 8, 9, 11, 16, 18, 23}, new int[] {5, 10, 12, 15, 17, 20, 21, 22},
+                new int[] {6, 3, 4, 3, 3, 5, 2, 3}, new int[] {0, 0, 1, 0, 0, 1, 1, 0}), 24, 4, 50);
+        longWay(lawnOf(new int[] {1, 8, 10, 11, 12, 18, 21}, new int[] {4, 9, 22, 24, 19, 14, 23, 13},
+                new int[] {6, 3, 4, 6, 3, 3, 2, 5}, new int[] {0, 0, 1, 3, 0, 0, 1, 1}), 20, 0, 51);
+    }
+
+    private void longWay(String text, int from, int to, int length) {
+        BandstandLawn lawn = lawn(text);
+        due("way", lawn.way(from, to, NONE), length);
+        int before = from;
+        for (int n = 0; n <= length; n++) {
+            int cell = lawn.way(from, to, n);
             int apart = Math.abs(cell % 5 - before % 5) + Math.abs(cell / 5 - before / 5);
             due("a step at most, behind " + n, apart <= 1 ? 1 : 0, 1);
             due("not roped off, behind " + n, lawn.cell(cell, 3), 0);
-            due("it does not SOUND, behind " + n, lawn.loud(n) >> cell & 1, 0);
+            due("it does not SOUND, behind " + n, n == 0 ? 0 : lawn.loud(n) >> cell & 1, 0);
             before = cell;
         }
-        due("it ends there", before, 4);
-        due("way(24, 4, 51)", lawn.way(24, 4, 51), NONE);
-        due("mows(24, 4, 50, 0)", lawn.mows(24, 4, 50, 0), 0);
-        due("mows(24, 4, 49, 0)", lawn.mows(24, 4, 49, 0), 1);
-        due("mows(24, 4, 100, 0)", lawn.mows(24, 4, 100, 0), 0);
+        due("it ends there", before, to);
+        due("way, one BEAT more", lawn.way(from, to, length + 1), NONE);
+        due("mows, as many BEATS", lawn.mows(from, to, length, 0), 0);
+        due("mows, one BEAT fewer", lawn.mows(from, to, length - 1, 0), 1);
+        due("mows, 100 BEATS", lawn.mows(from, to, 100, 0), 0);
     }
 
     /** A winding lane, 0 1 2 3 4 9 14 13 12 11 10 15 20 .., with TUNES in the eight cells behind 0. */
@@ -556,6 +568,11 @@ public final class AskedBoundsTest {
             due("meet at " + time, lawn.meet(0, 1, 1), 2);
             lawn.beats(1);
         }
+        // the longest that a search over lawns came to
+        lawn = lawn(lawnOf(new int[] {0, 7, 9, 11, 16, 18, 22}, new int[] {3, 14, 8, 19, 24, 13, 12, 17},
+                new int[] {4, 3, 3, 3, 4, 3, 2, 5}, new int[] {1, 1, 1, 1, 2, 1, 1, 0}) + "goer a 3 4;goer b 1 4;");
+        due("meet behind 42 BEATS", lawn.meet(0, 1, 0), 42);
+        due("meet behind 42 BEATS", lawn.meet(1, 0, 1), 14);
         lawn = lawn(AROUND_NOUGHT + "goer a 0 1;goer b 3 0;");
         for (int goer = 0; goer < 2; goer++) {
             due("a waits for 0", lawn.meet(goer, 1 - goer, 0), 3);
